@@ -30,6 +30,7 @@ public final class PromiseTest {
         go();
         goRefused();
         goTired();
+        goTiredByOne();
         sinLieConfess();
         carpet();
         far();
@@ -159,6 +160,9 @@ public final class PromiseTest {
         faultAt("5;5", 2);
         faultAt("2;010", 4);
         faultAt("2;01;", 4);
+        faultAt("2;01:", 4);
+        faultAt("2;/", 2);
+        faultAt("2;1/", 3);
         faultAt("2;019", 5);
         faultAt("2;0199", 5);
         faultAt("2;019:", 5);
@@ -182,6 +186,8 @@ public final class PromiseTest {
         faultAt("2;011;;", 6);
         faultAt("2;011;c", 7);
         faultAt("2;011;cc", 7);
+        faultAt("2;011;c:", 7);
+        faultAt("2;011;c/", 7);
         faultAt("2;011;c0", 8);
         faultAt("2;011;c0,", 8);
         faultAt("2;011;c9:", 8);
@@ -481,6 +487,25 @@ public final class PromiseTest {
         due.is("person(0, 3)", x.person(0, 3), 1);
         due.is("person(0, 4)", x.person(0, 4), 9023);
         due.is("person(1, 4)", x.person(1, 4), 23 + 9);
+    }
+
+    private static void goTiredByOne() {
+        ShameYards x = Typing.of("2;019;m90,c00");
+        for (int i = 0; i < 250; i++) {
+            x.go(0, 0, -1);
+        }
+        for (int i = 0; i < 9; i++) {
+            x.confess(0);
+        }
+        x.carpet(0, 1);
+        due.is("person(0, 4)", x.person(0, 4), 9000);
+        due.is("image()", x.image(), 9000);
+        due.is("go(1, 0, 0), with one who took 9000", x.go(1, 0, 0), 1);
+        due.is("person(0, 4)", x.person(0, 4), 9001);
+        due.is("go(1, 0, 0), with one who took 9001", x.go(1, 0, 0), FULL);
+        due.is("go(0, 0, -1)", x.go(0, 0, -1), FULL);
+        due.is("restore()", x.restore(), 9000);
+        due.is("go(0, 0, -1)", x.go(0, 0, -1), 1);
     }
 
     private static void sinLieConfess() {
@@ -888,6 +913,9 @@ public final class PromiseTest {
         due.is("digest() of a page", x.digest(), digestByCalls(x, "2;~ "));
         ShameYards one = Typing.of("3;014;m35");
         due.is("digest() of one", one.digest(), digestByCalls(one, ""));
+        ShameYards two = Typing.of("3;014,014,125;m35,w01");
+        two.go(1, 0, -1);
+        due.is("digest() of two", two.digest(), digestByCalls(two, ""));
         ShameYards y = Typing.of("5;014,125,233,026;c12,b12,m12,w12,l12");
         due.is("digest()", y.digest(), digestByCalls(y, ""));
         y.go(0, 0, 4);
