@@ -24,6 +24,10 @@ final class Due {
         }
     }
 
+    int asked() {
+        return asked;
+    }
+
     int wrong() {
         return wrong;
     }

@@ -6,11 +6,13 @@ import java.lang.reflect.Modifier;
 import java.nio.charset.StandardCharsets;
 import java.nio.file.Files;
 import java.nio.file.Path;
+import java.util.ArrayList;
 import java.util.Arrays;
 import java.util.HashSet;
 import java.util.List;
 import java.util.Set;
 import java.util.TreeSet;
+import java.util.regex.Matcher;
 import java.util.regex.Pattern;
 
 /** The public face is the document's and nothing else, and the source keeps to LANGUAGE.md. */
@@ -32,7 +34,12 @@ public final class FaceTest {
         fields();
         constructors();
         classesInside();
-        source(Files.readString(Path.of("src/main/java/ShameYards.java"), StandardCharsets.UTF_8));
+        parameters();
+        String text = Files.readString(Path.of("src/main/java/ShameYards.java"), StandardCharsets.UTF_8);
+        String code = text.replaceAll("(?s)/\\*.*?\\*/", "").replaceAll("//[^\n]*", "");
+        source(code);
+        rowsAreMadeWithTheObject(code);
+        methodsAreShort(text);
         due.end("FaceTest");
     }
 
@@ -111,13 +118,43 @@ public final class FaceTest {
         return Arrays.stream(one.getDeclaredFields()).filter(f -> !Modifier.isStatic(f.getModifiers())).count();
     }
 
-    private static void source(String text) {
+    private static void parameters() {
+        List<Class<?>> all = new ArrayList<>(List.of(ShameYards.class.getDeclaredClasses()));
+        all.add(ShameYards.class);
+        for (Class<?> one : all) {
+            for (Method method : one.getDeclaredMethods()) {
+                due.holds(method + " takes at most seven", method.getParameterCount() <= 7);
+            }
+        }
+    }
+
+    /** What a call makes is counted for the whole run, so that no call makes anything. */
+    private static void rowsAreMadeWithTheObject(String code) {
+        for (String line : code.split("\n")) {
+            due.holds("only fields are made: " + line.trim(),
+                    !line.matches(".*\\bnew\\b.*") || line.matches("\\s*(private )?final .* = .*;"));
+            due.holds("no copy is made: " + line.trim(), !line.matches(".*(copyOf|clone|substring|toCharArray).*"));
+        }
+    }
+
+    private static void methodsAreShort(String text) {
+        Pattern method = Pattern.compile(
+                "(?m)^( {4}| {8})(?!if|for|while|switch|\\})\\w[^\n]*\\) \\{\n(?s:(.*?))\n\\1\\}$");
+        Matcher matcher = method.matcher(text);
+        int found = 0;
+        for (int from = 0; matcher.find(from); from = matcher.start() + 1) {
+            found++;
+            due.holds(matcher.group(2).trim() + " is short", matcher.group(2).split("\n").length <= 60);
+        }
+        due.holds("methods are found: " + found, found > 80);
+    }
+
+    private static void source(String code) {
         List<String> ruledOut = List.of("->", "::", "\\b(throw|try|catch|finally|throws)\\b",
                 "\\b(synchronized|assert|volatile|native|transient)\\b", "\\w+Exact\\b", "\\bpackage\\b",
                 "System\\.(?!arraycopy)", "Math\\.(?!max|min|abs|floorDiv|floorMod)", "\\bRandom\\b", "\\bThread\\b",
                 "import (?!java\\.util\\.(Arrays|ArrayList|List);)", "\\.(equals|hashCode|toString|getClass)\\(",
                 "[^\\x00-\\x7f]", "@");
-        String code = text.replaceAll("(?s)/\\*.*?\\*/", "").replaceAll("//[^\n]*", "");
         for (String pattern : ruledOut) {
             due.holds("the source has no " + pattern, !Pattern.compile(pattern).matcher(code).find());
         }
