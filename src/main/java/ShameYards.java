@@ -82,7 +82,7 @@ public final class ShameYards {
             case 3: return now.places[person];
             case 4: return now.taken[person];
             case 5: return Sight.possibleLies(now, person);
-            case 6: return Sight.bestQuestion(now, person);
+            case 6: return Sight.bestQuestion(now, person, Sight.possibleLies(now, person));
             default: return OUTSIDE;
         }
     }
@@ -633,7 +633,7 @@ public final class ShameYards {
         }
 
         int walk(int person, int passage, int with) {
-            int has = stepsOf(person, passage, with);
+            int has = stepsWithLies(person, passage, with, lies[person]);
             int goal = across(passage, places[person]);
             places[person] = goal;
             taken[person] += has;
@@ -959,8 +959,7 @@ public final class ShameYards {
             return true;
         }
 
-        static int bestQuestion(House house, int person) {
-            int possible = possibleLies(house, person);
+        static int bestQuestion(House house, int person, int possible) {
             if (possible == 0) {
                 return NONE;
             }
