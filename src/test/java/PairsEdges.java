@@ -103,6 +103,16 @@ final class PairsEdges extends Edges {
         }
     }
 
+    static void p17_pairs_peopleWhoAreGoneDoNotCount(Due due) {
+        ShameYards x = of("2;019;l99,l99,l99,l99,l99");
+        due.is("pairs(0, 0)", x.pairs(0, 0), 108);
+        for (int people = 4; people >= 1; people--) {
+            Typing.type(x, "2;011;c00" + ",c00".repeat(people - 1));
+            x.ministry();
+            due.is("pairs(0, 0) of " + people, x.pairs(0, 0), 1);
+        }
+    }
+
     static void p17_pairs_noneOfAnEarlierAnswerIsLeft(Due due) {
         ShameYards x = of("2;012;c00,c00,c00,c00,l00");
         due.is("pairs(0, 14)", x.pairs(0, 14), 3);

@@ -93,6 +93,17 @@ final class SendEdges extends Edges {
         sent(due, of("3;121;c00,c00,c00,c00,c00"), NONE);
     }
 
+    static void p16_send_peopleAndRoomsThatAreGoneDoNotCount(Due due) {
+        ShameYards x = of("5;011,021,031,041;w00,w00,w00,w00,w00");
+        sent(due, x, 4, 0, 1, 2, 3);
+        Typing.type(x, "4;012,022,032;c00,c00");
+        x.ministry();
+        sent(due, x, NONE);
+        Typing.type(x, "3;012,022;c00,c00");
+        x.ministry();
+        sent(due, x, 4, 0, 1);
+    }
+
     // "11 to 14 who goes to ROOM 1 to 4 (NONE: there is none such)"
 
     static void p16_send_noSuchRoomIsNone(Due due) {
