@@ -2,17 +2,19 @@ import java.lang.reflect.InvocationTargetException;
 import java.lang.reflect.Method;
 import java.util.Arrays;
 import java.util.Comparator;
+import java.util.Map;
+import java.util.TreeMap;
 
 /**
  * Runs the cases of classes: each method named p, the promise's number in two digits (00 for what
- * no promise tells alone), '_', the call, '_' and the case.
+ * no promise tells alone), '_', the promise's name in the document, '_' and the case.
  */
 final class Cases {
-    private static final int PROMISES = 25;
-    private static final String NAME = "p\\d\\d_\\w+_\\w+";
+    private static final String NAME = "p\\d\\d_[A-Za-z]+_\\w+";
 
     private final Due due = new Due();
-    private final int[] byPromise = new int[PROMISES + 1];
+    private final Map<Integer, String> promises = new Document().promises();
+    private final Map<Integer, Integer> casesOf = new TreeMap<>();
 
     void run(Class<?> of) throws IllegalAccessException {
         Method[] methods = of.getDeclaredMethods();
@@ -20,15 +22,20 @@ final class Cases {
         for (Method method : methods) {
             if (method.getName().matches(NAME)) {
                 run(method);
+            } else {
+                due.promise(method.getName());
+                due.holds("it is a helper and no case", !method.getName().matches("p\\d.*"));
             }
         }
     }
 
     private void run(Method method) throws IllegalAccessException {
         String name = method.getName();
-        int before = due.asked();
+        int promise = Integer.parseInt(name.substring(1, 3));
         due.promise(name);
-        byPromise[Integer.parseInt(name.substring(1, 3))]++;
+        due.holds("it is named after its promise", promise == 0 || name.split("_")[1].equals(promises.get(promise)));
+        casesOf.merge(promise, 1, Integer::sum);
+        int before = due.asked();
         try {
             method.invoke(null, due);
         } catch (InvocationTargetException e) {
@@ -39,10 +46,11 @@ final class Cases {
 
     void end(String test) {
         due.promise(test);
-        for (int promise = 1; promise <= PROMISES; promise++) {
-            due.holds("promise " + promise + " has a case", byPromise[promise] > 0);
+        due.is("promises", promises.size(), 25);
+        for (int promise : promises.keySet()) {
+            due.holds("promise " + promise + " has a case", casesOf.containsKey(promise));
         }
-        System.out.println(test + ": " + Arrays.stream(byPromise).sum() + " cases");
+        System.out.println(test + ": " + casesOf.values().stream().mapToInt(i -> i).sum() + " cases");
         due.end(test);
     }
 }

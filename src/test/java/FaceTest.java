@@ -7,50 +7,49 @@ import java.nio.charset.StandardCharsets;
 import java.nio.file.Files;
 import java.nio.file.Path;
 import java.util.ArrayList;
-import java.util.Arrays;
 import java.util.HashSet;
 import java.util.List;
+import java.util.Map;
 import java.util.Set;
+import java.util.TreeMap;
 import java.util.TreeSet;
-import java.util.regex.Matcher;
 import java.util.regex.Pattern;
 
-/** The public face is the document's and nothing else, and the source keeps to LANGUAGE.md. */
+/** The public face is the one that the document writes down, and nothing else. */
 public final class FaceTest {
-    private static final List<String> FACE = List.of(
-            "int letter(int)", "int blank()", "int fault()", "int ministry()",
-            "int person(int,int)", "int as(int,int)", "int passage(int,int)", "int steps(int,int,int)",
-            "int go(int,int,int)", "int sin(int)", "int lie(int)", "int confess(int)", "int carpet(int,int)",
-            "int far(int,int,int,int)", "int send(int)", "int pairs(int,int)", "long meet(int,int,int,int)",
-            "int see(int,int,int,int)", "int forget()", "int days(int,int,int)",
-            "int image()", "int restore()", "int count(int)", "long digest()");
+    private static final Pattern OPEN_CALL = Pattern.compile("(?m)^ {4}public (\\w+ \\w+\\(.*\\)) \\{$");
 
     private static final Due due = new Due();
+    private static final Document document = new Document();
 
-    public static void main(String[] args) throws IOException {
+    public static void main(String[] args) throws IOException, ReflectiveOperationException {
         due.promise("face");
+        due.holds("the class is public and final",
+                ShameYards.class.getModifiers() == (Modifier.PUBLIC | Modifier.FINAL));
+        due.holds("it stands in no package", ShameYards.class.getPackageName().isEmpty());
+        due.holds("it is nothing else's kind", ShameYards.class.getSuperclass() == Object.class
+                && ShameYards.class.getInterfaces().length == 0);
         constants();
         methods();
-        fields();
+        methodsAsWritten();
         constructors();
         classesInside();
-        parameters();
-        String text = Files.readString(Path.of("src/main/java/ShameYards.java"), StandardCharsets.UTF_8);
-        String code = text.replaceAll("(?s)/\\*.*?\\*/", "").replaceAll("//[^\n]*", "");
-        source(code);
-        rowsAreMadeWithTheObject(code);
-        methodsAreShort(text);
+        promises();
         due.end("FaceTest");
     }
 
-    private static void constants() {
-        due.is("NONE", ShameYards.NONE, -1);
-        due.is("UNKNOWN", ShameYards.UNKNOWN, -101);
-        due.is("OUTSIDE", ShameYards.OUTSIDE, -102);
-        due.is("STATE", ShameYards.STATE, -103);
-        due.is("FULL", ShameYards.FULL, -104);
-        due.holds("the class is public and final",
-                ShameYards.class.getModifiers() == (Modifier.PUBLIC | Modifier.FINAL));
+    private static void constants() throws ReflectiveOperationException {
+        Map<String, Integer> open = new TreeMap<>();
+        for (Field field : ShameYards.class.getDeclaredFields()) {
+            if (!Modifier.isPrivate(field.getModifiers())) {
+                boolean constant = field.getType() == int.class
+                        && field.getModifiers() == (Modifier.PUBLIC | Modifier.STATIC | Modifier.FINAL);
+                due.holds(field.getName() + " is an int constant", constant);
+                open.put(field.getName(), constant ? field.getInt(null) : 0);
+            }
+        }
+        due.is("constants in the document", document.constants().size(), 5);
+        due.holds("the constants are the document's: " + open, open.equals(document.constants()));
     }
 
     private static void methods() {
@@ -62,11 +61,15 @@ public final class FaceTest {
                 hiddenNames.add(method.getName());
                 continue;
             }
-            due.holds(method.getName() + " is public", Modifier.isPublic(method.getModifiers()));
+            due.holds(method.getName() + " is public and no more", method.getModifiers() == Modifier.PUBLIC);
+            due.holds(method.getName() + " declares no exception", method.getExceptionTypes().length == 0);
             open.add(signature(method));
             openNames.add(method.getName());
         }
-        due.holds("the methods are the document's: " + open, open.equals(new TreeSet<>(FACE)));
+        Set<String> wanted = new TreeSet<>();
+        document.calls().forEach(call -> wanted.add(call.replaceAll(" \\w+(?=[,)])", "").replace(", ", ",")));
+        due.is("calls in the document", wanted.size(), 24);
+        due.holds("the methods are the document's: " + open, open.equals(wanted));
         hiddenNames.retainAll(openNames);
         due.holds("no private method bears a public name: " + hiddenNames, hiddenNames.isEmpty());
     }
@@ -79,17 +82,11 @@ public final class FaceTest {
         return text.append(')').toString();
     }
 
-    private static void fields() {
-        Set<String> open = new TreeSet<>();
-        for (Field field : ShameYards.class.getDeclaredFields()) {
-            if (!Modifier.isPrivate(field.getModifiers())) {
-                open.add(field.getName());
-                due.holds(field.getName() + " is an int constant", field.getType() == int.class
-                        && field.getModifiers() == (Modifier.PUBLIC | Modifier.STATIC | Modifier.FINAL));
-            }
-        }
-        due.holds("the open fields are the constants: " + open,
-                open.equals(Set.of("NONE", "UNKNOWN", "OUTSIDE", "STATE", "FULL")));
+    /** The names of the parameters and the order of the calls are the document's, too. */
+    private static void methodsAsWritten() throws IOException {
+        String source = Files.readString(Path.of("src/main/java/ShameYards.java"), StandardCharsets.UTF_8);
+        List<String> written = OPEN_CALL.matcher(source).results().map(row -> row.group(1)).toList();
+        due.holds("the calls are written as in the document: " + written, written.equals(document.calls()));
     }
 
     private static void constructors() {
@@ -100,63 +97,18 @@ public final class FaceTest {
     }
 
     private static void classesInside() {
-        Class<?>[] inside = ShameYards.class.getDeclaredClasses();
-        due.holds("there are some twelve classes", inside.length + 1 <= 12);
-        for (Class<?> one : inside) {
+        for (Class<?> one : ShameYards.class.getDeclaredClasses()) {
             int is = one.getModifiers();
             due.holds(one + " is static and not open",
                     Modifier.isStatic(is) && !Modifier.isPublic(is) && !Modifier.isProtected(is));
-            for (Field field : one.getDeclaredFields()) {
-                due.holds(one + "." + field.getName() + " is final, if it is static",
-                        !Modifier.isStatic(field.getModifiers()) || Modifier.isFinal(field.getModifiers()));
-            }
-            due.holds(one + " has some twenty fields", fieldsBesideConstants(one) <= 20);
         }
     }
 
-    private static long fieldsBesideConstants(Class<?> one) {
-        return Arrays.stream(one.getDeclaredFields()).filter(f -> !Modifier.isStatic(f.getModifiers())).count();
-    }
-
-    private static void parameters() {
-        List<Class<?>> all = new ArrayList<>(List.of(ShameYards.class.getDeclaredClasses()));
-        all.add(ShameYards.class);
-        for (Class<?> one : all) {
-            for (Method method : one.getDeclaredMethods()) {
-                due.holds(method + " takes at most seven", method.getParameterCount() <= 7);
-            }
-        }
-    }
-
-    /** What a call makes is counted for the whole run, so that no call makes anything. */
-    private static void rowsAreMadeWithTheObject(String code) {
-        for (String line : code.split("\n")) {
-            due.holds("only fields are made: " + line.trim(),
-                    !line.matches(".*\\bnew\\b.*") || line.matches("\\s*(private )?final .* = .*;"));
-            due.holds("no copy is made: " + line.trim(), !line.matches(".*(copyOf|clone|substring|toCharArray).*"));
-        }
-    }
-
-    private static void methodsAreShort(String text) {
-        Pattern method = Pattern.compile(
-                "(?m)^( {4}| {8})(?!if|for|while|switch|\\})\\w[^\n]*\\) \\{\n(?s:(.*?))\n\\1\\}$");
-        Matcher matcher = method.matcher(text);
-        int found = 0;
-        for (int from = 0; matcher.find(from); from = matcher.start() + 1) {
-            found++;
-            due.holds(matcher.group(2).trim() + " is short", matcher.group(2).split("\n").length <= 60);
-        }
-        due.holds("methods are found: " + found, found > 80);
-    }
-
-    private static void source(String code) {
-        List<String> ruledOut = List.of("->", "::", "\\b(throw|try|catch|finally|throws)\\b",
-                "\\b(synchronized|assert|volatile|native|transient)\\b", "\\w+Exact\\b", "\\bpackage\\b",
-                "System\\.(?!arraycopy)", "Math\\.(?!max|min|abs|floorDiv|floorMod)", "\\bRandom\\b", "\\bThread\\b",
-                "import (?!java\\.util\\.(Arrays|ArrayList|List);)", "\\.(equals|hashCode|toString|getClass)\\(",
-                "[^\\x00-\\x7f]", "@");
-        for (String pattern : ruledOut) {
-            due.holds("the source has no " + pattern, !Pattern.compile(pattern).matcher(code).find());
-        }
+    /** The document is not at odds with itself: what is promised is the face. */
+    private static void promises() {
+        List<String> promised = new ArrayList<>(document.promisedCalls());
+        due.is("promises", promised.size(), 25);
+        due.holds("the first is the constructor", !promised.isEmpty() && promised.remove(0).equals("ShameYards()"));
+        due.holds("the others are the calls of the face: " + promised, promised.equals(document.calls()));
     }
 }
